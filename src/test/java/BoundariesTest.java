@@ -48,6 +48,7 @@ public final class BoundariesTest {
         checkWithAResult();
         checkWhereZ2Is0();
         checkWouldTell0();
+        checkLooksAtEachLong();
         DUE.end();
     }
 
@@ -70,44 +71,40 @@ public final class BoundariesTest {
         LadderDesk walked = Desks.finished(Desks.SCALAR, Desks.POINT);
         Picture before = new Picture(walked);
         LadderDesk fresh = new LadderDesk();
+        new Picture(walked).sameAs(before, DUE, "the one with a result, another one made");
         new Picture(fresh).sameAs(new Picture(new LadderDesk()), DUE, "beside one with a result");
         Desks.tellScalar(fresh, Desks.ALL_ONES);
         Desks.walkToResult(fresh);
-        new Picture(walked).sameAs(before, DUE, "the one with a result");
+        new Picture(walked).sameAs(before, DUE, "the one with a result, another one walked");
     }
 
     private static void scalarFromK0ToK3() {
         DUE.about("2: A long of the scalar, in phase 0: 1");
         for (Stand stand : Stand.inPhase(0)) {
-            for (int k = 0; k < Desks.LONGS; k++) {
-                for (long v : EDGES) {
-                    LadderDesk desk = stand.reach();
-                    long[] want = Desks.told(desk, 0);
-                    long[] point = Desks.told(desk, 1);
-                    want[k] = v;
-                    DUE.same(stand + ": scalar(" + k + ", " + v + ")", desk.scalar(k, v), 1);
-                    DUE.sameLongs(stand + ": scalar, long " + k + " told", Desks.told(desk, 0), want);
-                    DUE.sameLongs(stand + ": point, left as it was", Desks.told(desk, 1), point);
-                    DUE.same(stand + ": phase()", desk.phase(), 0);
-                }
-            }
+            sameTelling(stand, 0);
         }
     }
 
     private static void pointFromK0ToK3() {
         DUE.about("3: A long of the point, likewise.");
         for (Stand stand : Stand.inPhase(0)) {
-            for (int k = 0; k < Desks.LONGS; k++) {
-                for (long v : EDGES) {
-                    LadderDesk desk = stand.reach();
-                    long[] scalar = Desks.told(desk, 0);
-                    long[] want = Desks.told(desk, 1);
-                    want[k] = v;
-                    DUE.same(stand + ": point(" + k + ", " + v + ")", desk.point(k, v), 1);
-                    DUE.sameLongs(stand + ": point, long " + k + " told", Desks.told(desk, 1), want);
-                    DUE.sameLongs(stand + ": scalar, left as it was", Desks.told(desk, 0), scalar);
-                    DUE.same(stand + ": phase()", desk.phase(), 0);
-                }
+            sameTelling(stand, 1);
+        }
+    }
+
+    /** Only the long that is told changes; which is 0 for the scalar, 1 for the point. */
+    private static void sameTelling(Stand stand, int which) {
+        for (int k = 0; k < Desks.LONGS; k++) {
+            for (long v : EDGES) {
+                LadderDesk desk = stand.reach();
+                String row = stand + ": long " + k + " told as " + v;
+                long[] want = Desks.told(desk, which);
+                long[] other = Desks.told(desk, 1 - which);
+                want[k] = v;
+                DUE.same(row, which == 0 ? desk.scalar(k, v) : desk.point(k, v), 1);
+                DUE.sameLongs(row + ", what is told", Desks.told(desk, which), want);
+                DUE.sameLongs(row + ", the other", Desks.told(desk, 1 - which), other);
+                DUE.same(row + ", phase()", desk.phase(), 0);
             }
         }
     }
@@ -264,7 +261,7 @@ public final class BoundariesTest {
 
     private static void phaseTurnsOnlyWhereItMust() {
         DUE.about("9: The phase.");
-        LadderDesk desk = Desks.told(Desks.SCALAR, Desks.POINT);
+        LadderDesk desk = Desks.telling(Desks.SCALAR, Desks.POINT);
         DUE.same("told", desk.phase(), 0);
         desk.start();
         DUE.same("started", desk.phase(), 1);
@@ -477,27 +474,35 @@ public final class BoundariesTest {
     private static void checkWouldTell0() {
         DUE.about("14: it would tell 0.");
         for (Stand stand : Stand.inPhase(2)) {
-            for (int k = 0; k < Desks.LONGS; k++) {
+            for (int bit : new int[] {0, 63, 64, 128, 192, 254}) {
                 LadderDesk desk = stand.reach();
-                long[] inside = resultInside(desk);
-                if (inside.length == Desks.LONGS) {
-                    inside[k] ^= 1L;
-                    DUE.same(stand + ": check() with long " + k + " wrong", desk.check(), 0);
-                    inside[k] ^= 1L;
-                }
-                DUE.same(stand + ": check() with long " + k + " right", desk.check(), 1);
+                BigInteger right = Reference.number(Desks.out(desk));
+                putResult(desk, right.flipBit(bit));
+                DUE.same(stand + ": check() with bit " + bit + " wrong", desk.check(), 0);
+                putResult(desk, right);
+                DUE.same(stand + ": check() with bit " + bit + " right", desk.check(), 1);
             }
         }
     }
 
-    private static long[] resultInside(LadderDesk desk) {
+    private static void checkLooksAtEachLong() {
+        DUE.about("14: it would tell 0. (where the product is X2 but for one long)");
+        for (int k = 0; k < Desks.LONGS; k++) {
+            LadderDesk desk = Stand.RESULT.reach();
+            BigInteger nearX2 = Reference.number(Desks.part(desk, 0)).flipBit(64 * k);
+            BigInteger z2 = Reference.number(Desks.part(desk, 1));
+            putResult(desk, nearX2.multiply(z2.modInverse(Reference.P)).mod(Reference.P));
+            DUE.same("check() with long " + k + " of the product wrong", desk.check(), 0);
+        }
+    }
+
+    private static void putResult(LadderDesk desk, BigInteger result) {
         try {
             Field field = LadderDesk.class.getDeclaredField("result");
             field.setAccessible(true);
-            return (long[]) field.get(desk);
+            System.arraycopy(Reference.words(result), 0, field.get(desk), 0, Desks.LONGS);
         } catch (ReflectiveOperationException e) {
             DUE.truth("the result is held where the test looks for it", false);
-            return new long[0];
         }
     }
 

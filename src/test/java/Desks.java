@@ -18,7 +18,7 @@ final class Desks {
     private Desks() {
     }
 
-    static LadderDesk told(long[] scalar, long[] point) {
+    static LadderDesk telling(long[] scalar, long[] point) {
         LadderDesk desk = new LadderDesk();
         tellScalar(desk, scalar);
         tellPoint(desk, point);
@@ -38,7 +38,7 @@ final class Desks {
     }
 
     static LadderDesk walking(long[] scalar, long[] point, int steps) {
-        LadderDesk desk = told(scalar, point);
+        LadderDesk desk = telling(scalar, point);
         desk.start();
         if (steps > 0) {
             desk.step(steps);
@@ -47,7 +47,7 @@ final class Desks {
     }
 
     static LadderDesk finished(long[] scalar, long[] point) {
-        LadderDesk desk = told(scalar, point);
+        LadderDesk desk = telling(scalar, point);
         walkToResult(desk);
         return desk;
     }

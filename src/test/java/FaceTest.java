@@ -32,22 +32,22 @@ public final class FaceTest {
                 names.add(m.getName());
             }
         }
-        truth("the methods are " + seen, seen.equals(FACE));
+        DUE.truth("the methods are " + seen, seen.equals(FACE));
         for (Method m : LadderDesk.class.getDeclaredMethods()) {
-            truth("private " + m.getName() + " bears a public name",
+            DUE.truth("private " + m.getName() + " bears a public name",
                 !Modifier.isPrivate(m.getModifiers()) || !names.contains(m.getName()));
         }
-        truth("the class is public and final",
+        DUE.truth("the class is public and final",
             (LadderDesk.class.getModifiers() & (Modifier.PUBLIC | Modifier.FINAL)) == (Modifier.PUBLIC | Modifier.FINAL));
     }
 
     private static void fields() {
         for (Field f : LadderDesk.class.getDeclaredFields()) {
             boolean isConstant = f.getName().equals("NONE");
-            truth("field " + f.getName(), isConstant
+            DUE.truth("field " + f.getName(), isConstant
                 ? f.toString().equals("public static final int LadderDesk.NONE")
                 : Modifier.isPrivate(f.getModifiers()));
-            truth("static field " + f.getName() + " is final",
+            DUE.truth("static field " + f.getName() + " is final",
                 !Modifier.isStatic(f.getModifiers()) || Modifier.isFinal(f.getModifiers()));
         }
         DUE.same("NONE", LadderDesk.NONE, -1);
@@ -55,18 +55,14 @@ public final class FaceTest {
 
     private static void constructors() {
         Constructor<?>[] all = LadderDesk.class.getDeclaredConstructors();
-        truth("one constructor", all.length == 1 && all[0].toString().equals("public LadderDesk()"));
+        DUE.truth("one constructor", all.length == 1 && all[0].toString().equals("public LadderDesk()"));
     }
 
     private static void innerClasses() {
         for (Class<?> c : LadderDesk.class.getDeclaredClasses()) {
             int m = c.getModifiers();
-            truth("class " + c + " is static and not public or protected",
+            DUE.truth("class " + c + " is static and not public or protected",
                 Modifier.isStatic(m) && !Modifier.isPublic(m) && !Modifier.isProtected(m));
         }
-    }
-
-    private static void truth(String what, boolean holds) {
-        DUE.same(what, holds ? 1 : 0, 1);
     }
 }

@@ -17,7 +17,7 @@ public final class KnownAnswersTest {
     }
 
     private static void due(String scalar, String point, String want) {
-        same("ladder of " + scalar, product(words(scalar), words(point)), words(want));
+        DUE.sameLongs("ladder of " + scalar, product(words(scalar), words(point)), words(want));
     }
 
     private static void repeated() {
@@ -28,28 +28,14 @@ public final class KnownAnswersTest {
             u = k;
             k = next;
             if (i == 1) {
-                same("once", k, words("422c8e7a6227d7bca1350b3e2bb7279f7897b87bb6854b783c60e80311ae3079"));
+                DUE.sameLongs("once", k, words("422c8e7a6227d7bca1350b3e2bb7279f7897b87bb6854b783c60e80311ae3079"));
             }
         }
-        same("1000 times", k, words("684cf59ba83309552800ef566f2f4d3c1c3887c49360e3875f2eb94d99532c51"));
+        DUE.sameLongs("1000 times", k, words("684cf59ba83309552800ef566f2f4d3c1c3887c49360e3875f2eb94d99532c51"));
     }
 
     private static long[] product(long[] scalar, long[] point) {
-        LadderDesk desk = new LadderDesk();
-        for (int k = 0; k < 4; k++) {
-            desk.scalar(k, scalar[k]);
-            desk.point(k, point[k]);
-        }
-        desk.start();
-        desk.step(255);
-        desk.finish();
-        return new long[] {desk.out(0), desk.out(1), desk.out(2), desk.out(3)};
-    }
-
-    private static void same(String what, long[] got, long[] want) {
-        for (int k = 0; k < 4; k++) {
-            DUE.same(what + ", long " + k, got[k], want[k]);
-        }
+        return Desks.out(Desks.finished(scalar, point));
     }
 
     /** RFC 7748 writes the lowest byte first. */

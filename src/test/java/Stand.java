@@ -52,7 +52,7 @@ enum Stand {
     LadderDesk reach() {
         LadderDesk desk = this == NEW || this == STARTED_NEW
             ? new LadderDesk()
-            : Desks.told(Desks.SCALAR, this == RESULT_0 ? Desks.ZERO : Desks.POINT);
+            : Desks.telling(Desks.SCALAR, this == RESULT_0 ? Desks.ZERO : Desks.POINT);
         switch (this) {
             case RESET_FROM_TELLING: desk.reset(); break;
             case RESET_FROM_LADDER: walk(desk, 100); desk.reset(); break;

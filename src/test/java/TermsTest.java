@@ -35,8 +35,8 @@ public final class TermsTest {
         DUE.about("256 bits each, told as four longs, numbered from 0, the first one the lowest 64 bits");
         for (int bit : new int[] {0, 63, 64, 127, 128, 191, 192, 254, 255}) {
             long[] one = Desks.withBit(Desks.ZERO, bit, true);
-            DUE.sameLongs("scalar with bit " + bit, Desks.told(Desks.told(one, Desks.ZERO), 0), one);
-            DUE.sameLongs("point with bit " + bit, Desks.told(Desks.told(Desks.ZERO, one), 1), one);
+            DUE.sameLongs("scalar with bit " + bit, Desks.told(Desks.telling(one, Desks.ZERO), 0), one);
+            DUE.sameLongs("point with bit " + bit, Desks.told(Desks.telling(Desks.ZERO, one), 1), one);
         }
         for (int bit : new int[] {62, 63, 64, 65, 126, 127, 128, 129, 190, 191, 192, 193}) {
             long[] one = Desks.withBit(Desks.ZERO, bit, true);
@@ -78,8 +78,8 @@ public final class TermsTest {
     private static void otherBitsAreAsTold() {
         DUE.about("CLAMPED: the others as told");
         for (int bit = 3; bit <= 253; bit++) {
-            LadderDesk with = Desks.told(Desks.withBit(Desks.SCALAR, bit, true), Desks.POINT);
-            LadderDesk without = Desks.told(Desks.withBit(Desks.SCALAR, bit, false), Desks.POINT);
+            LadderDesk with = Desks.telling(Desks.withBit(Desks.SCALAR, bit, true), Desks.POINT);
+            LadderDesk without = Desks.telling(Desks.withBit(Desks.SCALAR, bit, false), Desks.POINT);
             DUE.same("bit " + bit + " told 1", bitOf(Desks.told(with, 2), bit), 1);
             DUE.same("bit " + bit + " told 0", bitOf(Desks.told(without, 2), bit), 0);
         }
@@ -93,7 +93,7 @@ public final class TermsTest {
     private static void clampedOnlyWhenUsed() {
         DUE.about("The scalar is CLAMPED when it is used");
         for (long[] scalar : new long[][] {Desks.ALL_ONES, {7, 0, 0, Long.MIN_VALUE}, Desks.ZERO}) {
-            LadderDesk desk = Desks.told(scalar, Desks.POINT);
+            LadderDesk desk = Desks.telling(scalar, Desks.POINT);
             DUE.sameLongs("before start()", Desks.told(desk, 0), scalar);
             desk.start();
             DUE.sameLongs("behind start()", Desks.told(desk, 0), scalar);
@@ -117,13 +117,13 @@ public final class TermsTest {
             DUE.sameLongs("parts of it", Desks.parts(with), Desks.parts(without));
             DUE.sameLongs("result of it", Desks.out(with), Desks.out(without));
         }
-        DUE.sameLongs("U of bit 255 alone", Desks.told(Desks.told(Desks.ZERO, new long[] {0, 0, 0, Long.MIN_VALUE}), 3), Desks.ZERO);
+        DUE.sameLongs("U of bit 255 alone", Desks.told(Desks.telling(Desks.ZERO, new long[] {0, 0, 0, Long.MIN_VALUE}), 3), Desks.ZERO);
     }
 
     private static void pointsBit254IsUsed() {
         DUE.about("U is what its other bits tell: bit 254 is one of them");
         long[] bit254 = {0, 0, 0, 1L << 62};
-        DUE.sameLongs("U of bit 254 alone", Desks.told(Desks.told(Desks.ZERO, bit254), 3), bit254);
+        DUE.sameLongs("U of bit 254 alone", Desks.told(Desks.telling(Desks.ZERO, bit254), 3), bit254);
         long[] with = Desks.out(Desks.finished(Desks.SCALAR, Desks.withBit(Desks.POINT, 254, true)));
         long[] without = Desks.out(Desks.finished(Desks.SCALAR, Desks.withBit(Desks.POINT, 254, false)));
         DUE.truth("bit 254 tells in the result", !Arrays.equals(with, without));
@@ -152,7 +152,7 @@ public final class TermsTest {
         for (boolean top : new boolean[] {false, true}) {
             long[] told = Desks.withBit(point, 255, top);
             String row = "point " + Arrays.toString(told) + ", ";
-            LadderDesk desk = Desks.told(Desks.SCALAR, told);
+            LadderDesk desk = Desks.telling(Desks.SCALAR, told);
             DUE.sameLongs(row + "told(3)", Desks.told(desk, 3), u);
             DUE.sameLongs(row + "told(1)", Desks.told(desk, 1), told);
             desk.start();
@@ -267,7 +267,7 @@ public final class TermsTest {
 
     private static void resultsAreLessThanP() {
         DUE.about("A ladder over the numbers less than 2 to the 255, less 19");
-        LadderDesk desk = Desks.told(Desks.ALL_ONES, Desks.ALL_ONES);
+        LadderDesk desk = Desks.telling(Desks.ALL_ONES, Desks.ALL_ONES);
         for (int i = 0; i < 15; i++) {
             Desks.walkToResult(desk);
             DUE.truth("the result", isLessThanP(Desks.out(desk)));
@@ -296,7 +296,7 @@ public final class TermsTest {
         DUE.same("call 510, start()", desk.start(), 1);
         DUE.same("call 511, step(255)", desk.step(Desks.STEPS), 0);
         DUE.same("call 512, finish()", desk.finish(), 1);
-        LadderDesk byOne = Desks.told(Desks.SCALAR, Desks.POINT);
+        LadderDesk byOne = Desks.telling(Desks.SCALAR, Desks.POINT);
         byOne.start();
         for (int left = 254; left >= 0; left--) {
             DUE.same("step(1)", byOne.step(1), left);
