@@ -1,4 +1,3 @@
-import java.lang.reflect.Field;
 import java.math.BigInteger;
 
 /**
@@ -497,13 +496,8 @@ public final class BoundariesTest {
     }
 
     private static void putResult(LadderDesk desk, BigInteger result) {
-        try {
-            Field field = LadderDesk.class.getDeclaredField("result");
-            field.setAccessible(true);
-            System.arraycopy(Reference.words(result), 0, field.get(desk), 0, Desks.LONGS);
-        } catch (ReflectiveOperationException e) {
-            DUE.truth("the result is held where the test looks for it", false);
-        }
+        int rows = new Inside(desk).writeOver(Desks.out(desk), Reference.words(result));
+        DUE.truth("the result is held as four longs, or this test must find it otherwise", rows > 0);
     }
 
     private static long[] result(long[] scalar, long[] point) {
